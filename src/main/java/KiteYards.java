@@ -416,21 +416,19 @@ public final class KiteYards {
     /** Goes through the ways as numbers, so the first of the cheapest is the least one. */
     private void seekYards(int place) {
         best.clear();
+        trial.take(now);
         way.start(now.count, MOST_MORE);
         for (int turn = 0; turn < way.most(); turn++) {
             int cost = way.sum();
-            if (best.wants(cost) && letOutByWay()) {
-                flight.follow(trial);
-                if (flight.views(place)) {
-                    best.keepThis(cost, way.number());
-                }
+            if (best.wants(cost) && letOutByWay() && trialViews(place)) {
+                best.keepThis(cost, way.number());
             }
             way.step();
         }
     }
 
+    /** Whether no kite has too many yards then. */
     private boolean letOutByWay() {
-        trial.take(now);
         for (int kite = 0; kite < now.count; kite++) {
             int then = at(now.yards, kite) + at(way.figures, kite);
             if (then > MOST_YARDS) {
@@ -443,14 +441,12 @@ public final class KiteYards {
 
     private void seekBridles(int place) {
         best.clear();
+        trial.take(now);
         way.start(now.count, LEANS - 1);
         for (int turn = 0; turn < way.most(); turn++) {
             int cost = setByWay();
-            if (best.wants(cost)) {
-                flight.follow(trial);
-                if (flight.views(place)) {
-                    best.keepThis(cost, way.number());
-                }
+            if (best.wants(cost) && trialViews(place)) {
+                best.keepThis(cost, way.number());
             }
             way.step();
         }
@@ -459,7 +455,6 @@ public final class KiteYards {
     /** Sets the trial's bridles and answers how many are other than they are now. */
     private int setByWay() {
         int changes = 0;
-        trial.take(now);
         for (int kite = 0; kite < now.count; kite++) {
             int bridle = at(way.figures, kite) - MOST_LEAN;
             if (bridle != at(now.bridles, kite)) {
@@ -470,17 +465,16 @@ public final class KiteYards {
         return changes;
     }
 
+    private boolean trialViews(int place) {
+        flight.follow(trial);
+        return flight.views(place);
+    }
+
     /** How many of the shared places are seen if just those kites fly, in their order. */
     private int viewOf(int kites) {
         trial.takeSome(now, kites);
         flight.follow(trial);
-        int seen = 0;
-        for (int place = -FARTHEST_SHARED; place <= FARTHEST_SHARED; place++) {
-            if (flight.views(place)) {
-                seen++;
-            }
-        }
-        return seen;
+        return flight.viewsWithin(FARTHEST_SHARED);
     }
 
     /** Fills the tally with pairs of winds; answers which LOWs are among them, as bits. */
@@ -821,8 +815,21 @@ public final class KiteYards {
             if (count <= 0 || folding != 0) {
                 return false;
             }
-            int last = count - 1;
-            return Math.abs(place - at(places, last)) <= at(heights, last) / 4;
+            return Math.abs(place - at(places, count - 1)) <= sight();
+        }
+
+        /** How many of the places that are no farther from the dyke the last kite sees. */
+        int viewsWithin(int farthest) {
+            if (count <= 0 || folding != 0) {
+                return 0;
+            }
+            int from = Math.max(-farthest, at(places, count - 1) - sight());
+            int to = Math.min(farthest, at(places, count - 1) + sight());
+            return Math.max(0, to - from + 1);
+        }
+
+        private int sight() {
+            return at(heights, count - 1) / 4;
         }
     }
 

@@ -153,14 +153,14 @@ public final class ModelTest {
         int p = around(-20, 20);
         int q = below(2) == 0 ? around(-20, 20) : between(-5, 5);
         boolean upper = below(2) == 0;
-        switch (below(9)) {
-            case 0 -> {
+        switch (below(11)) {
+            case 0, 9, 10 -> {
                 // Mostly where it is, or would be in some winds.
                 int place = below(8) == 0 ? around(-30, 30) : x.kite(kite, 4) - 100 + between(-1, 1);
                 due(run, "seeAt(" + kite + ", " + place + ")", x.seeAt(kite, place), m.seeAt(kite, place));
             }
             case 1 -> {
-                if (below(3) == 0) {
+                if (below(4) == 0) {
                     due(run, "unsee()", x.unsee(), m.unsee());
                 }
             }

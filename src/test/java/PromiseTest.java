@@ -414,6 +414,16 @@ public final class PromiseTest {
         }
         due("kite(2, 0)", x.kite(2, 0), 7);
         due("undo()", x.undo(), LATE);
+        // Far past 14, each act another one.
+        for (int act = 0; act < 40; act++) {
+            x.turn(act % 5 - 2, act / 5 % 5 - 2);
+        }
+        for (int left = 13; left >= 0; left--) {
+            due("undo()", x.undo(), left);
+            int act = 25 + left;
+            due("about(1) back to act " + act, x.about(1), act % 5);
+            due("about(2) back to act " + act, x.about(2), act / 5 % 5);
+        }
     }
 
     private static void sees() {
@@ -460,6 +470,13 @@ public final class PromiseTest {
         due("cheapest(10, 1)", y.cheapest(10, 1), 2);
         due("cheapest(11, 0)", y.cheapest(11, 0), NONE);
         due("cheapest(11, 1)", y.cheapest(11, 1), NONE);
+        // 29 yards and 1 more are 30, which is not too many.
+        KiteYards most = flown("K22001Y222");
+        most.letOut(0, 9);
+        most.letOut(0, 9);
+        most.letOut(0, 9);
+        due("cheapest(7, 0)", most.cheapest(7, 0), 1);
+        due("cheapest(8, 0)", most.cheapest(8, 0), NONE);
         due("cheapest(0, 0), no kites", flown(NO_KITES).cheapest(0, 0), NONE);
         // More yards raise it over BORDER, where it does not fold.
         due("cheapest(0, 1), folding", flown("K42091Y720").cheapest(0, 1), 2);
@@ -550,6 +567,18 @@ public final class PromiseTest {
         // Alone 2 .. 6: 5; two at 8, height 18, see 4 .. 12: 6 of them count; three at 12, 27: 6 .. 18, 4 count.
         due("share(1, true)", edge.share(1, true), 4);
         due("share(1, false)", edge.share(1, false), 3);
+        // Five that are alike but in yards: 120 orders. Heights alone 9 7 5 3 1, see 5 3 3 1 1.
+        KiteYards five = flown(FIVE);
+        int above = 0;
+        for (int kite = 0; kite < 5; kite++) {
+            above += five.share(kite, true) * 60 / five.share(kite, false);
+        }
+        // Together 25 high: 6 each way. The shares make up what all see.
+        due("all shares", above, 13 * 60);
+        // One sees 4, two see 8, three see 12, which does not count.
+        KiteYards out = flown("K44009Y140Y140Y140");
+        due("share(0, true)", out.share(0, true), 0);
+        due("share(0, false)", out.share(0, false), 1);
         // They fly in the order of their numbers, whichever came first: leans 1 and 2 do not
         // fold, 2 and 1 would. Alone the first sees 5, the second folds; together they see 9.
         KiteYards order = flown("K22001Y930Y940");
@@ -750,6 +779,17 @@ public final class PromiseTest {
         KiteYards w = flown("K42502Y920");
         gustsAre(w, 10, 0, 0, 1);
         gustsAre(w, 1, 0, 9, 10);
+        // Leans 0 and 3: by FOLD 2 calm just with a gust low and none high,
+        // by FOLD 3 always but with a gust high and none low.
+        KiteYards v = flown("K23102Y920Y940");
+        gustsAre(v, 0, 0, 0, 1);
+        gustsAre(v, 10, 0, 1, 1);
+        gustsAre(v, 10, 10, 0, 1);
+        KiteYards u = flown("K23103Y920Y940");
+        gustsAre(u, 0, 10, 0, 1);
+        gustsAre(u, 10, 10, 1, 1);
+        gustsAre(u, 2, 5, 3, 5);
+        gustsAre(flown("K22001Y920"), 0, 10, 1, 1);
         gustsAre(flown(NO_KITES), 10, 5, 1, 1);
         due("gusts(11, 0)", x.gusts(11, 0, true), BAD);
         due("gusts(-1, 0)", x.gusts(-1, 0, true), BAD);
@@ -790,6 +830,26 @@ public final class PromiseTest {
         due("afternoons(31)", x.afternoons(31), BAD);
         due("afternoons(min)", x.afternoons(Integer.MIN_VALUE), BAD);
         due("seed(0), refused", x.seed(0L), 0);
+        // In HIGH alone.
+        KiteYards high = flown("K22001Y920");
+        long from = seed;
+        int foldedHigh = 0;
+        for (int time = 0; time < 30; time++) {
+            from = from * 6364136223846793005L + 1442695040888963407L;
+            foldedHigh += Math.abs((int) ((from >>> 33) % 25) % 5 - 2) > 1 ? 1 : 0;
+        }
+        high.seed(seed);
+        due("afternoons(30) in HIGH", high.afternoons(30), foldedHigh);
+        // Where the sign counts: only HIGH 2 and its bridle 1 fold.
+        KiteYards sign = flown("K22002Y930");
+        from = seed;
+        int foldedSign = 0;
+        for (int time = 0; time < 30; time++) {
+            from = from * 6364136223846793005L + 1442695040888963407L;
+            foldedSign += (int) ((from >>> 33) % 25) % 5 == 4 ? 1 : 0;
+        }
+        sign.seed(seed);
+        due("afternoons(30) by sign", sign.afternoons(30), foldedSign);
         KiteYards none = flown(NO_KITES);
         due("no kites", none.afternoons(1), 0);
         due("seed(0), no kites", none.seed(0L), 1442695040888963407L);
