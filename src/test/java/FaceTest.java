@@ -15,7 +15,7 @@ import java.util.regex.Matcher;
 import java.util.regex.Pattern;
 
 /** The document's face, and those rules of LANGUAGE.md that a reading of the source shows. */
-public final class FaceTest {
+public final class FaceTest extends TestBase {
     private static final String SOURCE = "src/main/java/KiteYards.java";
     private static final String[] FACE = {
         "int about(int)", "int afternoons(int)", "int again(int)", "int arrives(int,int)", "int cheapest(int,int)",
@@ -30,27 +30,13 @@ public final class FaceTest {
         "\\bpackage\\b", "->", "::", "Exact\\b", "\\bSystem\\.(?!arraycopy)", "static\\s*\\{", "\\bThread\\b", "\\bObject\\b",
         "\\bnative\\b", "\\bhashCode\\b", "\\btoString\\b", "\\bvar\\b", "\\bMath\\.random\\b"};
 
-    private static int passed = 0;
-    private static int failed = 0;
-
-    private static void check(String what, boolean holds) {
-        if (holds) {
-            passed++;
-        } else {
-            failed++;
-            System.out.println("it does not hold: " + what);
-        }
-    }
-
     public static void main(String[] args) throws IOException, IllegalAccessException {
+        heading("the face and LANGUAGE.md");
         methods();
         constants();
         classes();
         source(Files.readString(Path.of(SOURCE), StandardCharsets.ISO_8859_1));
-        System.out.println(passed + " passed, " + failed + " failed");
-        if (failed != 0) {
-            System.exit(1);
-        }
+        end();
     }
 
     private static String signature(Method method) {
@@ -68,17 +54,17 @@ public final class FaceTest {
             if (!Modifier.isPrivate(method.getModifiers())) {
                 open.add(signature(method));
                 openNames.add(method.getName());
-                check(method.getName() + " is public and not static", method.getModifiers() == Modifier.PUBLIC);
+                holds(method.getName() + " is public and not static", method.getModifiers() == Modifier.PUBLIC);
             }
         }
-        check("the methods are the face's: " + open, open.equals(new TreeSet<>(Arrays.asList(FACE))));
+        holds("the methods are the face's: " + open, open.equals(new TreeSet<>(Arrays.asList(FACE))));
         for (Method method : KiteYards.class.getDeclaredMethods()) {
             boolean hidden = Modifier.isPrivate(method.getModifiers());
-            check(method + " bears no public name", !hidden || !openNames.contains(method.getName()));
-            check(method + " takes seven at most", method.getParameterCount() <= 7);
+            holds(method + " bears no public name", !hidden || !openNames.contains(method.getName()));
+            holds(method + " takes seven at most", method.getParameterCount() <= 7);
         }
         Constructor<?>[] constructors = KiteYards.class.getDeclaredConstructors();
-        check("one public constructor", constructors.length == 1 && constructors[0].getParameterCount() == 0
+        holds("one public constructor", constructors.length == 1 && constructors[0].getParameterCount() == 0
             && constructors[0].getModifiers() == Modifier.PUBLIC);
     }
 
@@ -88,31 +74,31 @@ public final class FaceTest {
         for (Field field : KiteYards.class.getDeclaredFields()) {
             boolean isStatic = Modifier.isStatic(field.getModifiers());
             if (!Modifier.isPrivate(field.getModifiers())) {
-                check(field + " is an int constant", isStatic && field.getType() == int.class);
+                holds(field + " is an int constant", isStatic && field.getType() == int.class);
                 open.add(field.getName() + "=" + (isStatic ? field.get(null) : "?"));
             }
-            check(field + " is final, if static", !isStatic || Modifier.isFinal(field.getModifiers()));
+            holds(field + " is final, if static", !isStatic || Modifier.isFinal(field.getModifiers()));
             own += isStatic ? 0 : 1;
         }
-        check("the constants are the face's: " + open, open.equals(new TreeSet<>(Arrays.asList(CONSTANTS))));
-        check("twenty fields at most", own <= 20);
+        holds("the constants are the face's: " + open, open.equals(new TreeSet<>(Arrays.asList(CONSTANTS))));
+        holds("twenty fields at most", own <= 20);
     }
 
     private static void classes() {
-        check("public and final", KiteYards.class.getModifiers() == (Modifier.PUBLIC | Modifier.FINAL));
+        holds("public and final", KiteYards.class.getModifiers() == (Modifier.PUBLIC | Modifier.FINAL));
         Class<?>[] inside = KiteYards.class.getDeclaredClasses();
-        check("twelve classes at most", inside.length + 1 <= 12);
+        holds("twelve classes at most", inside.length + 1 <= 12);
         for (Class<?> one : inside) {
-            check(one + " is static", Modifier.isStatic(one.getModifiers()));
-            check(one + " is not public", !Modifier.isPublic(one.getModifiers()));
+            holds(one + " is static", Modifier.isStatic(one.getModifiers()));
+            holds(one + " is not public", !Modifier.isPublic(one.getModifiers()));
         }
     }
 
     private static void source(String text) {
-        check("signs are 1 to 127", text.chars().allMatch(sign -> sign > 0 && sign < 128));
+        holds("signs are 1 to 127", text.chars().allMatch(sign -> sign > 0 && sign < 128));
         String bare = text.replaceAll("(?s)/\\*.*?\\*/", "").replaceAll("//[^\n]*", "").replaceAll("\"[^\"\n]*\"", "\"\"");
         for (String forbidden : FORBIDDEN) {
-            check("no " + forbidden, !Pattern.compile(forbidden).matcher(bare).find());
+            holds("no " + forbidden, !Pattern.compile(forbidden).matcher(bare).find());
         }
         List<String> lines = Arrays.asList(text.split("\n"));
         Pattern head = Pattern.compile("^( {4}| {8})(?!return|if|for|switch|while|else)[A-Za-z].*\\) \\{$");
@@ -120,7 +106,7 @@ public final class FaceTest {
             Matcher matcher = head.matcher(lines.get(row));
             if (matcher.matches()) {
                 int end = lines.subList(row, lines.size()).indexOf(matcher.group(1) + "}");
-                check("short: " + lines.get(row).trim(), end > 0 && end <= 60);
+                holds("short: " + lines.get(row).trim(), end > 0 && end <= 60);
             }
         }
     }

@@ -1,11 +1,9 @@
 /** Long runs of drawn calls, each answered by the program and by PlainModel alike. */
-public final class ModelTest {
+public final class ModelTest extends TestBase {
     private static final int RUNS = 600;
     private static final int CALLS = 512;
 
     private static long drawn = 20261119L;
-    private static int passed = 0;
-    private static int failed = 0;
 
     private static int below(int bound) {
         drawn = drawn * 2862933555777941757L + 3037000493L;
@@ -32,11 +30,7 @@ public final class ModelTest {
     }
 
     private static void due(int run, String call, long got, long want) {
-        if (got == want) {
-            passed++;
-        } else if (failed++ < 20) {
-            System.out.println("run " + run + ": " + call + " answered " + got + ", due is " + want);
-        }
+        due("run " + run + ", " + call, got, want);
     }
 
     private static String drawString() {
@@ -220,6 +214,7 @@ public final class ModelTest {
     }
 
     public static void main(String[] args) {
+        heading("drawn runs");
         for (int run = 1; run <= RUNS; run++) {
             KiteYards x = new KiteYards();
             PlainModel m = new PlainModel();
@@ -240,9 +235,6 @@ public final class ModelTest {
             }
             same(run, x, m);
         }
-        System.out.println(passed + " passed, " + failed + " failed");
-        if (failed != 0) {
-            System.exit(1);
-        }
+        end();
     }
 }

@@ -1,61 +1,5 @@
 /** For each promise of the document: ordinary inputs, the edges it names, wrong inputs. */
-public final class PromiseTest {
-    private static final int UNKNOWN = -1, BAD = -2, LATE = -3, FULL = -4, NONE = -9;
-
-    /** LOW 0, HIGH 1, BORDER 10, FOLD 2; heights 9 16 19, leans 0 2 1, places 0 2 3; sees -1 .. 7. */
-    private static final String THREE = "K23102Y920Y831Y421";
-    private static final String FIVE = "K22009Y920Y720Y520Y320Y120";
-    private static final String NO_KITES = "K22001";
-
-    private static int passed = 0;
-    private static int failed = 0;
-    private static String promise = "";
-
-    private static void due(String call, long got, long want) {
-        if (got == want) {
-            passed++;
-        } else {
-            failed++;
-            System.out.println("promise " + promise + ": " + call + " answered " + got + ", due is " + want);
-        }
-    }
-
-    private static void writeAll(KiteYards x, String letters) {
-        x.wipe();
-        for (int i = 0; i < letters.length(); i++) {
-            x.write(letters.charAt(i));
-        }
-    }
-
-    private static KiteYards flown(String letters) {
-        KiteYards x = new KiteYards();
-        writeAll(x, letters);
-        int kites = (letters.length() - 6) / 4;
-        int answered = x.fly();
-        if (answered != kites) {
-            due("fly() of " + letters, answered, kites);
-        }
-        return x;
-    }
-
-    /** All that can be asked without changing anything, in one row. */
-    private static String picture(KiteYards x) {
-        StringBuilder row = new StringBuilder();
-        for (int what = 0; what < 10; what++) {
-            row.append(x.about(what)).append(' ');
-        }
-        for (int kite = 0; kite < 5; kite++) {
-            for (int what = 0; what < 6; what++) {
-                row.append(x.kite(kite, what)).append(' ');
-            }
-        }
-        return row.append(x.winds(0)).toString();
-    }
-
-    private static void sameAs(String call, String before, KiteYards x) {
-        due(call + " changes nothing", before.equals(picture(x)) ? 1 : 0, 1);
-    }
-
+public final class PromiseTest extends TestBase {
     public static void main(String[] args) {
         newObject();
         write();
@@ -87,14 +31,11 @@ public final class PromiseTest {
         afternoons();
         keep();
         again();
-        System.out.println(passed + " passed, " + failed + " failed");
-        if (failed != 0) {
-            System.exit(1);
-        }
+        end();
     }
 
     private static void newObject() {
-        promise = "1";
+        heading("promise 1");
         KiteYards x = new KiteYards();
         int[] wants = {0, 2, 2, 0, 1, 0, 0, 0, 0, 0};
         for (int what = 0; what < wants.length; what++) {
@@ -110,7 +51,7 @@ public final class PromiseTest {
     }
 
     private static void write() {
-        promise = "2";
+        heading("promise 2");
         KiteYards x = new KiteYards();
         due("write(-1)", x.write(-1), BAD);
         due("write(256)", x.write(256), BAD);
@@ -127,7 +68,7 @@ public final class PromiseTest {
     }
 
     private static void wipe() {
-        promise = "3";
+        heading("promise 3");
         KiteYards x = flown(THREE);
         due("wipe()", x.wipe(), 18);
         due("wipe()", x.wipe(), 0);
@@ -149,7 +90,7 @@ public final class PromiseTest {
     }
 
     private static void fault() {
-        promise = "4";
+        heading("promise 4");
         faultOf("", 0);
         faultOf("k", 0);
         faultOf("Y", 0);
@@ -197,7 +138,7 @@ public final class PromiseTest {
     }
 
     private static void fly() {
-        promise = "5";
+        heading("promise 5");
         KiteYards x = new KiteYards();
         due("fly()", x.fly(), LATE);
         writeAll(x, THREE);
@@ -239,7 +180,7 @@ public final class PromiseTest {
     }
 
     private static void about() {
-        promise = "6";
+        heading("promise 6");
         KiteYards x = flown(THREE);
         int[] wants = {3, 2, 3, 10, 2, 21, 0, 0, 0, 18};
         for (int what = 0; what < wants.length; what++) {
@@ -270,7 +211,7 @@ public final class PromiseTest {
     }
 
     private static void kite() {
-        promise = "7";
+        heading("promise 7");
         KiteYards x = flown(THREE);
         int[][] wants = {{9, 2, 0, 9, 100, 0}, {8, 3, 1, 16, 102, 0}, {4, 2, 1, 19, 103, 0}};
         for (int kite = 0; kite < 3; kite++) {
@@ -303,7 +244,7 @@ public final class PromiseTest {
     }
 
     private static void letOut() {
-        promise = "8";
+        heading("promise 8");
         KiteYards x = flown(THREE);
         due("letOut(0, 9)", x.letOut(0, 9), 18);
         due("letOut(0, 9)", x.letOut(0, 9), 27);
@@ -329,7 +270,7 @@ public final class PromiseTest {
     }
 
     private static void set() {
-        promise = "9";
+        heading("promise 9");
         KiteYards x = flown(THREE);
         String before = picture(x);
         due("set(0, 0)", x.set(0, 0), LATE);
@@ -349,7 +290,7 @@ public final class PromiseTest {
     }
 
     private static void cut() {
-        promise = "10";
+        heading("promise 10");
         KiteYards x = flown(THREE);
         String before = picture(x);
         due("cut(3)", x.cut(3), UNKNOWN);
@@ -367,7 +308,7 @@ public final class PromiseTest {
     }
 
     private static void turn() {
-        promise = "11";
+        heading("promise 11");
         KiteYards x = flown(THREE);
         String before = picture(x);
         due("turn(0, 1)", x.turn(0, 1), LATE);
@@ -386,7 +327,7 @@ public final class PromiseTest {
     }
 
     private static void undo() {
-        promise = "12";
+        heading("promise 12");
         KiteYards x = flown(THREE);
         due("undo()", x.undo(), LATE);
         String first = picture(x);
@@ -427,7 +368,7 @@ public final class PromiseTest {
     }
 
     private static void sees() {
-        promise = "13";
+        heading("promise 13");
         KiteYards x = flown(THREE);
         for (int place = -100; place <= 100; place++) {
             due("sees(" + place + ")", x.sees(place), place >= -1 && place <= 7 ? 1 : 0);
@@ -446,7 +387,7 @@ public final class PromiseTest {
     }
 
     private static void cheapest() {
-        promise = "14";
+        heading("promise 14");
         KiteYards x = flown(THREE);
         // With the first kite 1 higher it stands at BORDER, and the last one at 4.
         int[][] wants = {{7, 0, 0}, {-1, 0, 0}, {8, 1, 1}, {-2, 1, 1}, {9, 1, 100}, {-3, 5, 23},
@@ -483,7 +424,7 @@ public final class PromiseTest {
     }
 
     private static void fewest() {
-        promise = "15";
+        heading("promise 15");
         KiteYards wide = flown("K22009Y920");
         int[][] wants = {{2, 0, 2}, {3, 1, 3}, {4, 1, 4}, {5, NONE, NONE}, {-3, 1, 0}, {-4, 1, 0}, {-5, NONE, NONE}};
         String before = picture(wide);
@@ -509,7 +450,7 @@ public final class PromiseTest {
     }
 
     private static void whereToCut() {
-        promise = "16";
+        heading("promise 16");
         due("no kites", flown(NO_KITES).whereToCut(), NONE);
         due("one kite", flown("K22001Y920").whereToCut(), NONE);
         due("one that folds", flown("K22001Y940").whereToCut(), NONE);
@@ -522,7 +463,7 @@ public final class PromiseTest {
     }
 
     private static void drops() {
-        promise = "17";
+        heading("promise 17");
         KiteYards x = flown(THREE);
         due("drops(0)", x.drops(0), 21);
         due("drops(1)", x.drops(1), 12);
@@ -537,7 +478,7 @@ public final class PromiseTest {
     }
 
     private static void share() {
-        promise = "18";
+        heading("promise 18");
         KiteYards x = flown(THREE);
         due("share(0, true)", x.share(0, true), 5);
         due("share(1, true)", x.share(1, true), 3);
@@ -588,7 +529,7 @@ public final class PromiseTest {
     }
 
     private static void arrives() {
-        promise = "19";
+        heading("promise 19");
         KiteYards x = flown(THREE);
         // Bridles and 2: 2, 3, 2 make 7, which is 3 by 4.
         due("arrives(1, 0)", x.arrives(1, 0), 3);
@@ -612,7 +553,7 @@ public final class PromiseTest {
     }
 
     private static void sent() {
-        promise = "20";
+        heading("promise 20");
         KiteYards x = flown(THREE);
         due("sent(1, 3)", x.sent(1, 3), 0);
         due("sent(4, 3012)", x.sent(4, 3012), 123);
@@ -629,7 +570,7 @@ public final class PromiseTest {
     }
 
     private static void taken() {
-        promise = "21";
+        heading("promise 21");
         KiteYards x = flown(THREE);
         int[][] wants = {{3, 123, 123, 1}, {3, 123, 120, 1}, {3, 123, 121, 1}, {3, 123, 122, 1}, {3, 123, 133, 1},
             {3, 0, 300, 1}, {3, 0, 200, 1}, {3, 123, 132, 1}, {3, 123, 23, 1}, {3, 0, 330, 1}, {3, 0, 103, 1},
@@ -646,7 +587,7 @@ public final class PromiseTest {
     }
 
     private static void seeAt() {
-        promise = "22";
+        heading("promise 22");
         KiteYards x = flown(THREE);
         due("seeAt(3, 0)", x.seeAt(3, 0), UNKNOWN);
         due("seeAt(-1, 31)", x.seeAt(-1, 31), UNKNOWN);
@@ -665,7 +606,7 @@ public final class PromiseTest {
     }
 
     private static void unsee() {
-        promise = "23";
+        heading("promise 23");
         KiteYards x = flown(THREE);
         due("unsee()", x.unsee(), 0);
         x.seeAt(0, 5);
@@ -685,7 +626,7 @@ public final class PromiseTest {
     }
 
     private static void winds() {
-        promise = "24";
+        heading("promise 24");
         KiteYards x = flown(THREE);
         windsAre(x, 25, 0, NONE);
         x.seeAt(0, 1);
@@ -722,7 +663,7 @@ public final class PromiseTest {
     }
 
     private static void rests() {
-        promise = "25";
+        heading("promise 25");
         KiteYards x = flown("K22001Y920Y920Y920");
         String before = picture(x);
         restsAre(x, 0, 1, 1, -1, 1, 30);
@@ -758,7 +699,7 @@ public final class PromiseTest {
     }
 
     private static void gusts() {
-        promise = "26";
+        heading("promise 26");
         // It leans 1 in LOW, with a gust 2, which folds.
         KiteYards x = flown("K22501Y930");
         String before = picture(x);
@@ -798,7 +739,7 @@ public final class PromiseTest {
     }
 
     private static void seed() {
-        promise = "27";
+        heading("promise 27");
         KiteYards x = flown(THREE);
         due("seed(max)", x.seed(Long.MAX_VALUE), 0);
         due("seed(min)", x.seed(Long.MIN_VALUE), Long.MAX_VALUE);
@@ -811,7 +752,7 @@ public final class PromiseTest {
     }
 
     private static void afternoons() {
-        promise = "28";
+        heading("promise 28");
         KiteYards x = flown("K22501Y920Y920");
         String before = picture(x);
         long seed = 0L;
@@ -867,7 +808,7 @@ public final class PromiseTest {
     }
 
     private static void keep() {
-        promise = "29";
+        heading("promise 29");
         KiteYards x = flown(THREE);
         due("keep(2)", x.keep(2), UNKNOWN);
         due("keep(-1)", x.keep(-1), UNKNOWN);
@@ -888,7 +829,7 @@ public final class PromiseTest {
     }
 
     private static void again() {
-        promise = "30";
+        heading("promise 30");
         KiteYards x = flown(THREE);
         due("again(0)", x.again(0), LATE);
         due("again(2)", x.again(2), UNKNOWN);
