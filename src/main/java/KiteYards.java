@@ -418,7 +418,8 @@ public final class KiteYards {
         best.clear();
         trial.take(now);
         way.start(now.count, MOST_MORE);
-        for (int turn = 0; turn < way.most(); turn++) {
+        int ways = way.most();
+        for (int turn = 0; turn < ways; turn++) {
             int cost = way.sum();
             if (best.wants(cost) && letOutByWay() && trialViews(place)) {
                 best.keepThis(cost, way.number());
@@ -443,7 +444,8 @@ public final class KiteYards {
         best.clear();
         trial.take(now);
         way.start(now.count, LEANS - 1);
-        for (int turn = 0; turn < way.most(); turn++) {
+        int ways = way.most();
+        for (int turn = 0; turn < ways; turn++) {
             int cost = setByWay();
             if (best.wants(cost) && trialViews(place)) {
                 best.keepThis(cost, way.number());

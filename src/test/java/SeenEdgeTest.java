@@ -279,6 +279,12 @@ public final class SeenEdgeTest extends TestBase {
         due("five, the third folds", flown("K22001Y920Y920Y940Y930Y920").whereToCut(), 2);
         due("five, the second folds", flown("K22001Y920Y940Y930Y920Y920").whereToCut(), 1);
         due("five, the first folds", flown("K22001Y940Y930Y920Y920Y920").whereToCut(), NONE);
+        // However many fold above.
+        due("five, the second and all above fold", flown("K22001Y920Y940Y900Y940Y900").whereToCut(), 1);
+        due("five, the third and all above fold", flown("K22001Y920Y920Y940Y900Y940").whereToCut(), 2);
+        due("five, the fourth and the fifth fold", flown("K22001Y920Y920Y920Y940Y900").whereToCut(), 3);
+        due("five, the second and the fifth fold", flown("K22001Y920Y940Y930Y920Y900").whereToCut(), 1);
+        due("five, all fold", flown("K22001Y940Y900Y940Y900Y940").whereToCut(), NONE);
         // After cutting there, none folds; the next cut is one lower.
         KiteYards x = flown("K22001Y920Y920Y940Y930Y920");
         x.cut(x.whereToCut());

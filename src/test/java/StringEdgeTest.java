@@ -460,6 +460,7 @@ public final class StringEdgeTest extends TestBase {
                 haveYards(x, kite, 30);
             }
             due("kite(4, 3)", x.kite(4, 3), 150);
+            due("about(5)", x.about(5), 150);
             due("kite(4, 4)", x.kite(4, 4), 100 + side * 20);
             due("sees its far end", x.sees(side * 57), 1);
             due("sees past its far end", x.sees(side * 58), 0);

@@ -27,6 +27,7 @@ public final class WindEdgeTest extends TestBase {
         gusts0And10Tenths();
         gustsEachByItself();
         gustsOf1More();
+        gustsOrNone();
         gustsWithoutKites();
         gustsBad();
         seedIsAnyLong();
@@ -381,6 +382,24 @@ public final class WindEdgeTest extends TestBase {
         gustsAre(flown("K02501Y920"), 9, 0, 9, 10);
         gustsAre(flown("K20001Y920"), 0, 9, 9, 10);
         gustsAre(flown("K20001Y910"), 0, 10, 0, 1);
+    }
+
+    private static void gustsOrNone() {
+        heading("GUSTS: .. 1 more by x tenths: as it is by the others");
+        // BORDER, FOLD and kites; each by itself there is a gust, or there is none.
+        String[] rests = {"001Y920", "101Y920", "101Y920Y920", "102Y930Y910", "501Y910", "001Y930Y930Y920"};
+        for (String rest : rests) {
+            for (int winds = 0; winds < 16; winds++) {
+                int low = winds / 4 - 2;
+                int high = winds % 4 - 2;
+                KiteYards x = flown("K" + (low + 2) + (high + 2) + rest);
+                for (int gust = 0; gust < 4; gust++) {
+                    KiteYards y = flown("K44" + rest);
+                    y.turn(low + gust / 2, high + gust % 2);
+                    gustsAre(x, gust / 2 * 10, gust % 2 * 10, y.about(6) == 0 ? 1 : 0, 1);
+                }
+            }
+        }
     }
 
     private static void gustsWithoutKites() {
