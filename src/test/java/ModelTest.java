@@ -3,7 +3,11 @@ public final class ModelTest extends TestBase {
     private static final int RUNS = 600;
     private static final int CALLS = 512;
 
+    /** What telling a string and the last look at all can need. */
+    private static final int CALLS_LEFT = 110;
+
     private static long drawn = 20261119L;
+    private static int calls = 0;
 
     private static int below(int bound) {
         drawn = drawn * 2862933555777941757L + 3037000493L;
@@ -30,6 +34,7 @@ public final class ModelTest extends TestBase {
     }
 
     private static void due(int run, String call, long got, long want) {
+        calls++;
         due("run " + run + ", " + call, got, want);
     }
 
@@ -56,7 +61,7 @@ public final class ModelTest extends TestBase {
         return kind == 0 ? spoilt.substring(0, below(spoilt.length())) : kind == 1 ? spoilt + "Y9" : spoilt;
     }
 
-    private static int tellAndFly(int run, KiteYards x, PlainModel m) {
+    private static void tellAndFly(int run, KiteYards x, PlainModel m) {
         due(run, "wipe()", x.wipe(), m.wipe());
         String text = drawString();
         if (below(4) == 0) {
@@ -67,7 +72,6 @@ public final class ModelTest extends TestBase {
             due(run, "fault() in " + text, x.fault(), m.fault());
         }
         due(run, "fly() of " + text, x.fly(), m.fly());
-        return 2 + 2 * text.length();
     }
 
     private static int drawWord(int n) {
@@ -151,6 +155,7 @@ public final class ModelTest extends TestBase {
             case 0, 9, 10 -> {
                 // Mostly where it is, or would be in some winds.
                 int place = below(8) == 0 ? around(-30, 30) : x.kite(kite, 4) - 100 + between(-1, 1);
+                calls++;
                 due(run, "seeAt(" + kite + ", " + place + ")", x.seeAt(kite, place), m.seeAt(kite, place));
             }
             case 1 -> {
@@ -218,20 +223,21 @@ public final class ModelTest extends TestBase {
         for (int run = 1; run <= RUNS; run++) {
             KiteYards x = new KiteYards();
             PlainModel m = new PlainModel();
-            int calls = 0;
+            calls = 0;
             // Some runs are asked ahead of any string.
             int ahead = below(4) == 0 ? 30 : 0;
+            boolean told = false;
             int changes = between(1, 8);
             int flights = between(60, 400);
-            while (calls < CALLS - 60) {
-                if (calls >= ahead && (calls == ahead || below(flights) == 0)) {
-                    calls += tellAndFly(run, x, m);
+            for (int turn = 0; turn < CALLS && calls < CALLS - CALLS_LEFT; turn++) {
+                if (calls >= ahead && (!told || below(flights) == 0)) {
+                    tellAndFly(run, x, m);
+                    told = true;
                 } else if (below(10) < changes) {
                     change(run, x, m);
                 } else {
                     ask(run, x, m);
                 }
-                calls++;
             }
             same(run, x, m);
         }

@@ -506,8 +506,8 @@ public final class WindEdgeTest extends TestBase {
 
     private static void afternoons1To30() {
         heading("AFTERNOONS: m times (1 .. 30); BAD: m");
-        KiteYards x = flown("K22101Y920Y130Y110");
         for (int m = 1; m <= 30; m++) {
+            KiteYards x = flown("K22101Y920Y130Y110");
             long seed = 1000003L * m;
             x.seed(seed);
             int one = 0;
@@ -519,6 +519,7 @@ public final class WindEdgeTest extends TestBase {
             due("THE SEED after " + m, x.seed(0L), after);
         }
         int[] wrong = {0, 31, -1, -30, Integer.MAX_VALUE, Integer.MIN_VALUE};
+        KiteYards x = flown(THREE);
         x.seed(9L);
         for (int m : wrong) {
             due("afternoons(" + m + ")", x.afternoons(m), BAD);
